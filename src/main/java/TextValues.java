@@ -928,13 +928,13 @@ public final class TextValues {
 
     /**
      * Makes minimal automata. An operation describes a machine of at most 20 nodes; a state is a set of nodes, as a
-     * bit mask. Which texts of at most three letters a state takes, its sign, tells states apart: more than ten
+     * bit mask. Which texts of at most two letters a state takes, its sign, tells states apart: more than ten
      * signs end the work early.
      */
     static final class Maker {
         private static final int WIDTH = 2 * SIZE;
         private static final long NODES = (1L << WIDTH) - 1;
-        private static final int LEVELS = 3;
+        private static final int LEVELS = 2;
         private static final int ROW = LETTERS + 1;
         private static final int ROWS = 64;
         /** Above every number of states that a machine can have: that of CHAIN has at most 10 * 1024. */
