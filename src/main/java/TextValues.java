@@ -396,14 +396,6 @@ public final class TextValues {
             size = other.size;
         }
 
-        void putStep(int state, int letter, int to) {
-            if (state < HALF) {
-                low |= (long) to << (12 * state + 4 * letter);
-            } else {
-                high |= (long) to << (12 * (state - HALF) + 4 * letter);
-            }
-        }
-
         int to(int state, int letter) {
             if (state < HALF) {
                 return (int) (low >>> (12 * state + 4 * letter)) & 15;
@@ -968,10 +960,12 @@ public final class TextValues {
         private int groups;
 
         void begin(int count) {
-            nodes = Math.min(Math.max(count, 0), WIDTH);
+            nodes = count > WIDTH ? WIDTH : count;
             split = nodes;
             way = JOIN;
-            Arrays.fill(steps, 0);
+            for (int node = 0; node < nodes; node++) {
+                steps[node] = 0;
+            }
         }
 
         void addStep(int node, int letter, int to) {
@@ -987,6 +981,7 @@ public final class TextValues {
                 out.set(b);
             } else {
                 pair(a, b, JOIN);
+                sign(a.ends | b.ends << split);
                 if (!finish(1 | 1 << split, out)) {
                     out.makeAll();
                 }
@@ -1000,6 +995,7 @@ public final class TextValues {
                 out.set(b);
             } else {
                 pair(a, b, BOTH);
+                sign(a.ends | b.ends << split);
                 if (!finish(1 | 1 << split, out)) {
                     out.set(a);
                 }
@@ -1013,25 +1009,23 @@ public final class TextValues {
                 out.set(a);
             } else {
                 pair(a, b, LESS);
+                sign(a.ends | b.ends << split);
                 if (!finish(1 | 1 << split, out)) {
                     out.set(a);
                 }
             }
         }
 
+        /** The nodes are the states of two languages, and each step leads to the states of both. */
         private void pair(Lang a, Lang b, int how) {
             begin(a.size + b.size);
             split = a.size;
             way = how;
-            addStates(a, 0);
-            addStates(b, split);
-            sign(a.ends | b.ends << split);
-        }
-
-        private void addStates(Lang a, int from) {
-            for (int state = 0; state < a.size; state++) {
+            for (int node = 0; node < nodes; node++) {
+                Lang of = node < split ? a : b;
+                int from = node < split ? 0 : split;
                 for (int letter = 0; letter < LETTERS; letter++) {
-                    addStep(from + state, letter, 1 << from + a.to(state, letter));
+                    addStep(node, letter, 1 << from + of.to(node - from, letter));
                 }
             }
         }
@@ -1045,10 +1039,7 @@ public final class TextValues {
                 out.set(a);
                 return;
             }
-            begin(a.size + b.size);
-            split = a.size;
-            addStates(a, 0);
-            addStates(b, split);
+            pair(a, b, JOIN);
             int over = 1 << split;
             for (int state = 0; state < a.size; state++) {
                 for (int letter = 0; letter < LETTERS; letter++) {
@@ -1203,7 +1194,12 @@ public final class TextValues {
             limit = ROWS;
             boolean fits = place(start) >= 0;
             for (int state = 0; fits && state < made && state < MOST_ROWS; state++) {
-                fits = makeRoom();
+                if (made + LETTERS > limit) {
+                    fits = 2 * limit <= MOST_ROWS;
+                    if (fits) {
+                        enlarge();
+                    }
+                }
                 long to = 0;
                 int key = keys[state];
                 for (int node = 0; node < nodes && key != 0; node++) {
@@ -1265,23 +1261,27 @@ public final class TextValues {
             return made - 1;
         }
 
-        /** Sees to it that three more states have room. */
-        private boolean makeRoom() {
-            if (made + LETTERS <= limit) {
-                return true;
-            }
-            if (2 * limit > MOST_ROWS) {
-                return false;
-            }
+        /** Makes room for twice as many states; they are found by their keys at other slots then. */
+        private void enlarge() {
             limit *= 2;
+            base += made;
             if (keys.length < limit) {
-                keys = Arrays.copyOf(keys, limit);
-                rows = Arrays.copyOf(rows, ROW * limit);
-                group = Arrays.copyOf(group, limit);
-                finer = Arrays.copyOf(finer, limit);
+                int[] moreKeys = new int[limit];
+                int[] moreRows = new int[ROW * limit];
+                byte[] moreGroup = new byte[limit];
+                for (int state = 0; state < made; state++) {
+                    moreKeys[state] = keys[state];
+                    moreGroup[state] = group[state];
+                }
+                for (int i = 0; i < ROW * made; i++) {
+                    moreRows[i] = rows[i];
+                }
+                keys = moreKeys;
+                rows = moreRows;
+                group = moreGroup;
+                finer = new byte[limit];
                 slots = new int[2 * limit];
             }
-            forget();
             int last = 2 * limit - 1;
             for (int state = 0; state < made; state++) {
                 int slot = keys[state] * SPREAD >>> 8 & last;
@@ -1290,7 +1290,6 @@ public final class TextValues {
                 }
                 slots[slot] = base + state + 1;
             }
-            return true;
         }
 
         /** Makes all slots empty. */
@@ -1298,7 +1297,9 @@ public final class TextValues {
             base += made;
             if (base > LARGE) {
                 base = 0;
-                Arrays.fill(slots, 0);
+                for (int slot = 0; slot < slots.length; slot++) {
+                    slots[slot] = 0;
+                }
             }
         }
 
@@ -1334,18 +1335,27 @@ public final class TextValues {
 
         /** Groups are numbered in the order of their first states, and states in that of their smallest texts. */
         private void write(Lang out) {
-            out.makeNothing();
+            long low = 0;
+            long high = 0;
+            int ends = 0;
             int written = 0;
             for (int state = 0; state < made && written < groups; state++) {
                 if (group[state] == written) {
-                    for (int letter = 0; letter < LETTERS; letter++) {
-                        out.putStep(written, letter, group[rows[ROW * state + letter]]);
+                    int row = ROW * state;
+                    long to = group[rows[row]] | group[rows[row + 1]] << 4 | group[rows[row + 2]] << 8;
+                    if (written < Lang.HALF) {
+                        low |= to << 12 * written;
+                    } else {
+                        high |= to << 12 * (written - Lang.HALF);
                     }
-                    out.ends |= rows[ROW * state + LETTERS] << written;
+                    ends |= rows[row + LETTERS] << written;
                     written++;
                 }
             }
-            out.size = groups;
+            out.low = low;
+            out.high = high;
+            out.ends = ends;
+            out.size = written;
         }
     }
 
@@ -1842,10 +1852,29 @@ public final class TextValues {
 
         private void block(Node first, int depth) {
             for (Node node = first; node != null && !lost && depth <= DEPTH; node = node.next) {
-                if (node.kind == '#' || node.kind == '*') {
-                    loop(node, depth);
-                } else if (countStep()) {
-                    act(node, depth);
+                boolean loops = node.kind == '#' || node.kind == '*';
+                if (!loops && !countStep()) {
+                    return;
+                }
+                switch (node.kind) {
+                    case '=':
+                        assign(node);
+                        break;
+                    case '/':
+                        replace(node);
+                        break;
+                    case '!':
+                        rings += passes(node) ? 1 : 0;
+                        break;
+                    case '?':
+                        block(passes(node) ? node.first : node.second, depth + 1);
+                        break;
+                    case '+':
+                        block(draw(2) == 0 ? node.first : node.second, depth + 1);
+                        break;
+                    default:
+                        loop(node, depth);
+                        break;
                 }
             }
         }
@@ -1866,26 +1895,6 @@ public final class TextValues {
                 if (again) {
                     block(node.first, depth + 1);
                 }
-            }
-        }
-
-        private void act(Node node, int depth) {
-            switch (node.kind) {
-                case '=':
-                    assign(node);
-                    break;
-                case '/':
-                    replace(node);
-                    break;
-                case '!':
-                    rings += passes(node) ? 1 : 0;
-                    break;
-                case '?':
-                    block(passes(node) ? node.first : node.second, depth + 1);
-                    break;
-                default:
-                    block(draw(2) == 0 ? node.first : node.second, depth + 1);
-                    break;
             }
         }
 

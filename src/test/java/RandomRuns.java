@@ -43,7 +43,11 @@ public final class RandomRuns {
     }
 
     private static String someProgram(Talk talk) {
-        return talk.below(3) == 0 ? talk.program(40 + talk.below(81)) : talk.growing(120);
+        int kind = talk.below(8);
+        if (kind == 0) {
+            return talk.ring();
+        }
+        return kind < 4 ? talk.program(40 + talk.below(81)) : talk.growing(120);
     }
 
     private static void call(Talk talk, Pair pair) {

@@ -78,6 +78,15 @@ final class Talk {
         return b.toString();
     }
 
+    /** A loop in which texts go from variable to variable, so that each growth takes several rounds. */
+    String ring() {
+        String step = "y=x" + ("'" + letters(2) + "'") + ";" + (oneIn(2) ? "y/bc;y/ab;y='a'y;" : grow());
+        String other = oneIn(3) ? grow().replaceFirst(".", "y") : "y=x'" + letters(2) + "';";
+        String turn = oneIn(4) ? "x=u;u=y;" : "x=v;v=u;u=y;";
+        String test = oneIn(4) ? "+" : "?x" + digit();
+        return (oneIn(3) ? "#u" + digit() : "*") + "{" + test + "{" + other + "}{" + step + "}" + turn + "}";
+    }
+
     private String growingLoop(int depth) {
         StringBuilder b = new StringBuilder(oneIn(3) ? "#" + variable() + digit() + "{" : "*{");
         for (int i = 1 + below(3); i > 0; i--) {
@@ -119,7 +128,8 @@ final class Talk {
             "(a|b)*a(a|b)(a|b)", "abcabcab", "(.*a.*b)*", "(...)*..", "(aa|bb|cc)*", "(a*b*c*)*a", ".*aab.*",
             "((b|c)*a(b|c)*a(b|c)*a)*", "(a(b(c)*)*)*", ".*(ab|ba)", "(.....)*", "(....)*.", "a.*a|b.*b|c.*c",
             "(a|bc)*b?", "(.*c)?ab*", "(ab*c|b)*", "......*", "b*ab*ab*ab*a?", ".?.?.?.?.?.?.?.?", "(..)*", "(...)*",
-            "a*|b*|c*", ".*a.*", ".*b.*c.*", ".*cc", "(a|b|c)"};
+            "a*|b*|c*", ".*a.*", ".*b.*c.*", ".*cc", "(a|b|c)", "abccc.*", "abc*a.*",
+            ".*ccc.*", "(ab*c*)?", ".*ca"};
         return forms[below(forms.length)];
     }
 
