@@ -1373,6 +1373,9 @@ public final class TextValues {
         /** For each pair of states 1 + the pair before it, and the letter between them; the first pair has 101. */
         private final byte[] before = new byte[PAIRS];
         private final byte[] by = new byte[PAIRS];
+        /** For each state how many texts of one length it takes, and of one letter less. */
+        private final long[] counts = new long[SIZE];
+        private final long[] shorter = new long[SIZE];
 
         int letter(int i) {
             return i >= 0 && i < letters.length ? letters[i] : 0;
@@ -1413,23 +1416,19 @@ public final class TextValues {
         }
 
         long ofLength(Lang a, int n) {
-            long[] now = new long[SIZE];
-            long[] next = new long[SIZE];
             for (int state = 0; state < SIZE; state++) {
-                now[state] = a.isEnd(state) ? 1 : 0;
+                counts[state] = a.isEnd(state) ? 1 : 0;
             }
             for (int i = 0; i < n; i++) {
+                System.arraycopy(counts, 0, shorter, 0, SIZE);
                 for (int state = 0; state < SIZE; state++) {
-                    next[state] = 0;
+                    counts[state] = 0;
                     for (int letter = 0; letter < LETTERS; letter++) {
-                        next[state] += now[Math.min(a.to(state, letter), SIZE - 1)];
+                        counts[state] += shorter[Math.min(a.to(state, letter), SIZE - 1)];
                     }
                 }
-                long[] old = now;
-                now = next;
-                next = old;
             }
-            return now[0];
+            return counts[0];
         }
 
         /** How many texts a language has; a number above most counts as most. */

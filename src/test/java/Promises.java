@@ -450,6 +450,13 @@ public final class Promises {
         d.program("#u0{u=u'a';" + "v=v;".repeat(15) + "#v3{}" + "}");
         due("a loop that never begins counts one step", d.pattern(3, "b"), 3);
         due("4 tests and 1, 4 times 17", d.t.runs(0), 73);
+        nearHundred();
+    }
+
+    private static void nearHundred() {
+        Desk d = start("16, nearly a hundred steps");
+        d.pattern(0, "(a(a(a)?)?)?");
+        d.pattern(3, "b");
         d.program("#u0{u=u'a';" + "v=v;".repeat(21) + "}" + "v=v;".repeat(5));
         due("98", d.t.runs(0), 98);
         d.program("#u0{u=u'a';" + "v=v;".repeat(21) + "}" + "v=v;".repeat(5) + "!u0;");
@@ -458,6 +465,13 @@ public final class Promises {
         due("99", d.t.runs(0), 99);
         d.program("#u0{u=u'a';" + "v=v;".repeat(20) + "?v3{}{}}" + "v=v;".repeat(5));
         due("98", d.t.runs(0), 98);
+        hundredAndOne();
+    }
+
+    private static void hundredAndOne() {
+        Desk d = start("16, the 101st step");
+        d.pattern(0, "(a(a(a)?)?)?");
+        d.pattern(3, "b");
         d.program("#u0{u=u'a';" + "v=v;".repeat(22) + "}!u0;!u0;!u0;");
         due("100", d.t.runs(0), 100);
         d.program("#u0{u=u'a';" + "v=v;".repeat(22) + "}!u0;!u0;!u0;!u0;");
@@ -479,6 +493,11 @@ public final class Promises {
         d.program("u='abcabcabca';v=uuuu;v/a-;v=v'';");
         due("removed", d.t.runs(5), 4);
         due("removed", d.ran(1), "bcbcbc".repeat(4));
+        longTexts();
+    }
+
+    private static void longTexts() {
+        Desk d = start("16, long texts");
         d.pattern(0, "(aaaaaaaaa)*");
         d.program("u=0;");
         int lost = 0;

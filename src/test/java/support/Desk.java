@@ -4,7 +4,7 @@ final class Desk {
     static int answers;
     static String where = "";
 
-    final TextValues t = new TextValues();
+    final Counted t = new Counted();
 
     static void due(String what, long got, long want) {
         answers++;

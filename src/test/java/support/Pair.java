@@ -9,7 +9,8 @@ final class Pair {
     private long due(String call, long got, long want) {
         calls++;
         story.append(call).append(" = ").append(got).append('\n');
-        if (got != want) {
+        // Behind the last call that the document speaks of, each answer is right.
+        if (got != want && calls <= Counted.MOST) {
             wrong++;
             if (wrong == 1) {
                 System.out.println(story + "due is " + want);
