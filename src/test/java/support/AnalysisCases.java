@@ -116,11 +116,21 @@ final class AnalysisCases extends Cases {
         }
         d.program("u=uvxy'a'u;");
         due("also in a program", d.texts(0, 2), "a.");
+        String large = "'abcabcab'";
+        d.program("u='L';v='L';x='L';y='L';".replace("'L'", large));
+        due("large ones", d.t.value(0, 0) + d.t.value(1, 0) + d.t.value(2, 0) + d.t.value(3, 0), 40);
+        d.program("*{u='';v='';x='';y='';}");
+        rounds(d, 1, 1);
+        due("not those of another program", d.texts(0, 2) + d.texts(1, 2) + d.texts(2, 2) + d.texts(3, 2), "....");
+        d.program("u='abcabcab';*{u='ba';}v='abcabcab';v=v'aa';*{v=v'a';}");
+        due("large ones", d.t.value(0, 3) + d.t.value(1, 3), 2);
+        d.program("*{u='';v='';x='';y='';}");
+        rounds(d, 1, 1);
     }
 
     private static void oneAfterAnother() {
-        Desk d = withProgram("u='a';v=u;u=u'b';x=u;u/ac;");
-        due("texts", d.texts(0, 2) + d.texts(1, 2) + d.texts(2, 2), "cb.a.ab.");
+        Desk d = withProgram("u='a';v=u;u=u'b';x=u;u/ac;y=ux;");
+        due("texts", d.texts(0, 2) + d.texts(1, 2) + d.texts(2, 2) + d.texts(3, 2), "cb.a.ab.cbab.");
     }
 
     private static void staysImpossible() {
@@ -169,6 +179,8 @@ final class AnalysisCases extends Cases {
         Desk d = withProgram("u='a';u=u'b'u;v=vu;v=vv;");
         due("u", d.texts(0, 2), "aba.");
         due("v", d.texts(1, 2), "abaaba.");
+        d = withProgram("u='a';u='b'u;v='a';v='b'vv;");
+        due("it comes behind another part", d.texts(0, 2) + d.texts(1, 2), "ba.baa.");
         d = withProgram("u=0;u=uu;", "a|b");
         due("both parts are it", d.texts(0, 5), "aa.ab.ba.bb.");
     }
@@ -249,6 +261,8 @@ final class AnalysisCases extends Cases {
         due("#", d.texts(1, 3), "b.");
         d = withProgram("u='a';#u0{u='b';}", "b");
         due("no time", d.texts(0, 3), "a.");
+        d = withProgram("u=0;#u1{}", "a|b", "a");
+        due("also what is not in the pattern", d.texts(0, 3), "b.");
     }
 
     private static void round() {
@@ -381,6 +395,8 @@ final class AnalysisCases extends Cases {
         due("it is the empty text", d.t.alarm(0, 2), 0);
         d = setting(5, 1, "*{*{!u0;}u=u'a';}", "aaa");
         due("in each round of the outer loop", d.raised(0), "aaa");
+        due("also if it was raised before", setting(5, 1, "u='cc';*{*{!u0;}u='ab';}").raised(0), "ab");
+        due("also if it was raised before", setting(5, 1, "*{}u='cc';!u0;*{!u0;u='ab';}").raised(1), "ab");
         d = withProgram("+{u='b';}{u='a';}!u0;u='c';!u0;", "a|c");
         due("each alarm for itself", d.raised(0) + d.raised(1), "ac");
     }
@@ -412,6 +428,8 @@ final class AnalysisCases extends Cases {
         due("the later one is as long", setting(5, 1, "u='ba';*{!u0;u='bb';}").raised(0), "ba");
         due("of one time", withProgram("u=1;!u0;", ".*", "ccc|bcc|bca").raised(0), "bca");
         due("only those in the pattern", withProgram("u=1;!u0;", "c.*", "a|b|ca").raised(0), "ca");
+        due("only those in both", withProgram("u=1;!u0;", "a*bc", ".*").raised(0), "bc");
+        due("only those in both", withProgram("u=1;!u0;", ".*", "a*cb").raised(0), "cb");
         due("the empty text", withProgram("!u0;").t.alarm(0, 2), 0);
         due("of an outer loop", setting(5, 1, "u='cc';*{*{!u0;}u='ab';}").raised(0), "ab");
         // In the first round LESS would be too large, and is its first operand; later it is small.

@@ -78,6 +78,11 @@ final class LanguageCases extends Cases {
         due("the empty text first", d.texts(4, 8), ".a.b.c.ba.ca.cb.cba.");
         d.program("u='a';+{u='aaa';}{u='cc';}!u1;");
         due("an alarm", d.raised(0), "cc");
+        d.program("u='ab';*{!u1;u='c';}");
+        due("an alarm that is looked at twice", d.raised(0), "c");
+        // In the first round LESS would be too large, and is its first operand; later there are only longer texts.
+        Desk e = withProgram("u=0;*{?u1{}{!u2;}u=3;}", ".*c..", "bb.*", "(bbc|a...)..");
+        due("the longer one comes later", e.raised(0), "bbcaa");
     }
 
     private static void lexicographic(Desk d) {
@@ -134,7 +139,9 @@ final class LanguageCases extends Cases {
     private static void largeOperations() {
         isAll(withProgram("+{u='abcabcab';}{u='ba';}"), 0);
         isAll(setting(5, 1, "u='abcabcab';*{u='ba';}"), 0);
+        isAll(withProgram("+{u=0;}{u=1;}", "b*c.", "..b"), 0);
         isAll(withProgram("u='abcabca';u=u'bc';"), 0);
+        isAll(withProgram("u=01;", "b*", "(..a)*"), 0);
         isAll(withProgram("u=0;u/ab;", "aa(b|c)*a(b|c)(b|c)"), 0);
         isAll(withProgram("u=0;u/a-;", "cc(b|c)*ab(b|c)(b|c)"), 0);
         Desk d = setting(0, 1, "u='aa';*{u=0;}", "b*a*b|..");
@@ -151,6 +158,8 @@ final class LanguageCases extends Cases {
         isAll(d, 4);
         due("sixteen", d.pattern(0, ".*a..."), 1);
         isAll(d, 4);
+        due("eleven that differ in short texts", d.pattern(0, "b*(..a)*"), 1);
+        isAll(d, 4);
         due("ten and NOTHING", d.pattern(0, "(aaaaaaaaaa)*"), 1);
         isAll(d, 4);
     }
@@ -161,6 +170,9 @@ final class LanguageCases extends Cases {
         isAll(d, 1);
         isAll(d, 2);
         due("others are not", d.texts(3, 2), "cc.");
+        d = withProgram("u='abcabcab';v='aaaaaaa';");
+        due("eight letters", d.texts(0, 2) + d.t.value(0, 0), "abcabcab.10");
+        due("seven letters", d.texts(1, 2) + d.t.value(1, 0), "aaaaaaa.9");
     }
 
     private static void justTen() {
@@ -200,6 +212,12 @@ final class LanguageCases extends Cases {
         due("LESS", d.t.within(1, 5) + d.t.within(5, 1), 2);
         d = withProgram("u=0;?u1{}" + STOP, ".*c..", "aa.*");
         due("not the second one", d.t.value(0, 0), 8);
+        d = withProgram("u=2;?u0" + STOP + "{}v=u;?v1" + STOP + "{}x=2;?x1" + STOP + "{}?u1" + STOP + "{}", "b*c.",
+                "..b");
+        due("LESS of size 12 is what was before it", d.t.within(0, 1) + d.t.within(1, 0), 2);
+        due("that has no text of pattern 0", d.t.many(1, 2), 9 - 3);
+        due("but some of pattern 1", d.t.many(1, 3), 27 - 3);
+        due("LESS alone", d.t.many(2, 3), 27 - 9);
         d = withProgram("u=0;#u1{}", "(.....)*", "(...)*");
         due("LESS behind a loop", d.t.within(0, 4) + d.t.within(4, 0), 2);
         d = withProgram("u=0;#u1{y='a';v=u;}", "(.....)*", "(...)*");
@@ -253,6 +271,11 @@ final class LanguageCases extends Cases {
         due("a* behind a letter", d.texts(1, 4), "c.ca.caa.caaa.");
         due("a* b*", d.texts(2, 7), ".a.b.aa.ab.bb.aaa.");
         due("b* a*", d.texts(3, 7), ".a.b.aa.ba.bb.aaa.");
+        d = withProgram("u=0'c';v='c'0;x=00;y=1 0;", "..*", "(a|b)*");
+        due("any but the empty text before a letter", d.texts(0, 4), "ac.bc.cc.aac.");
+        due("any but the empty text behind a letter", d.texts(1, 4), "ca.cb.cc.caa.");
+        due("two letters at least", d.texts(2, 2) + d.t.value(2, 0), "aa.ab.3");
+        due("the second one", d.t.within(3, 4) + d.t.within(4, 3), 2);
         d = withProgram("u=''  '';v=0'a';x='a'0;y=00;");
         due("of two empty texts", d.texts(0, 3), ".");
         due("behind ALL", d.texts(1, 5), "a.aa.ba.ca.aaa.");

@@ -246,7 +246,8 @@ final class LanguagePromises extends Cases {
 
     private static void programFault(Desk d) {
         d.program("u='a';");
-        String[] faulty = {"a", "u", "u=;", "u='d';", "!u4;", "?u0{}", "#u0", "*{", "}", "u=v;;", "u/abc;", "*{*{*{*{*{*{}}}}}}"};
+        String[] faulty = {"a", "u", "u=;", "u='d';", "!u4;", "?u0{}", "#u0", "*{", "}", "u=v;;", "u/abc;",
+            "*{*{*{*{*{*{}}}}}}"};
         int[] places = {0, 1, 2, 3, 2, 5, 3, 2, 0, 4, 4, 11};
         for (int i = 0; i < faulty.length; i++) {
             due(faulty[i], d.program(faulty[i]), -10 - places[i]);
@@ -282,6 +283,10 @@ final class LanguagePromises extends Cases {
         due("K", d.t.sets(1, 1) * 10 + d.t.told(4), 1);
         due("K = 1: text 1", d.text(0, 1), "ab");
         due("DELAY stays", d.t.told(3), 1);
+        d.t.sets(0, 4);
+        due("K", d.t.sets(1, 0), 1);
+        due("DELAY stays", d.t.told(3), 4);
+        due("rounds", d.t.count(1), 6);
     }
 
     private static void valueBefore(Desk d) {
@@ -385,7 +390,8 @@ final class LanguagePromises extends Cases {
     }
 
     private static void endless(Desk d) {
-        String[] patterns = {".*", "a*", "ab*c", "(.........)*", "(..........)*", "aaaaaaa*", "a|b|(ccc)*", "(aaaaaaaaa)*"};
+        String[] patterns = {".*", "a*", "ab*c", "(.........)*", "(..........)*", "aaaaaaa*", "a|b|(ccc)*",
+            "(aaaaaaaaa)*"};
         for (String p : patterns) {
             d.pattern(0, p);
             due(p, d.t.value(4, 2), 1000);
@@ -396,7 +402,7 @@ final class LanguagePromises extends Cases {
     }
 
     private static void isAll(Desk d) {
-        due("at first", d.t.value(4, 3), 1);
+        due("at first", d.t.value(4, 3) + d.t.value(5, 3) + d.t.value(6, 3) + d.t.value(7, 3), 4);
         due("the empty text", d.t.value(0, 3), 0);
         String[] patterns = {"(a|b|c)*", "(a*b*c*)*", "|..*", "..*", "(a|b)*", ".*a.*", ""};
         int[] all = {1, 1, 1, 0, 0, 0, 0};
@@ -716,6 +722,7 @@ final class LanguagePromises extends Cases {
         due("the empty text", d.t.within(1, 6) + d.t.within(1, 0), 1);
         due("variables that are the same", d.t.within(1, 2) + d.t.within(3, 1), 2);
         due("the tenth letter tells", d.t.within(6, 7) + d.t.within(7, 6), 0);
+        due("not by what was found before", d.t.within(6, 6) + d.t.within(0, 0) + d.t.within(1, 1), 3);
         due("the second one is asked for first", withProgram("u='a';", "a").t.within(4, 0), 1);
         due("the second one is asked for first", withProgram("u='b';", "a").t.within(4, 0), 0);
         Desk e = withProgram("u=0;", "(..........)*", ".*");

@@ -259,7 +259,8 @@ final class ProgramCases extends Cases {
         due("+ in the second S", d.texts(0, 9), "a.b.c.aa.bb.cc.");
         d = withProgram("+{+{+{+{+{u='a';}{u='b';}}{u='c';}}{u='aa';}}{u='bb';}}{u='cc';}");
         due("+ in the first S", d.texts(0, 9), "a.b.c.aa.bb.cc.");
-        d = withProgram("u=0;?u1{}{?u2{}{?u3{}{?u1{v='ab';}{?u2{v='ac';}{v='ba';}}}}}", "aa?a?a?a?a?", "a", "aa", "aaa");
+        d = withProgram("u=0;?u1{}{?u2{}{?u3{}{?u1{v='ab';}{?u2{v='ac';}{v='ba';}}}}}", "aa?a?a?a?a?", "a", "aa",
+                "aaa");
         due("? in the second S", d.texts(1, 9), ".ba.");
         due("all is joined", d.t.within(0, 4) + d.t.within(4, 0), 2);
         d = withProgram("u=1;?u0{?u0{?u0{?u0{?u0{v='a';}{v='b';}}{v='b';}}{v='b';}}{v='b';}}{v='c';}", "a", "a|b");
@@ -341,6 +342,9 @@ final class ProgramCases extends Cases {
         for (int j = 0; j < 6; j++) {
             due("alarm " + j, d.t.alarm(j, 1), places[j]);
         }
+        Desk e = withProgram("!u1;!u0;*{!v1;!v0;}!u1;", "", "a");
+        due("which may be raised", "" + e.t.alarm(0, 0) + e.t.alarm(1, 0) + e.t.alarm(2, 0) + e.t.alarm(3, 0)
+                + e.t.alarm(4, 0), "01010");
         due("none before", d.t.alarm(-1, 0), BAD);
         due("none behind", d.t.alarm(6, 0), BAD);
     }

@@ -17,7 +17,8 @@ final class RunCases extends Cases {
         s.of("For a part that is a digit i, let m be 8,", d -> eight());
         s.of("or the number of texts of pattern i if it has fewer;", d -> fewer());
         s.of("a number below m is drawn,", d -> oneDraw());
-        s.of("and the text is the one with this number of the m smallest texts of the pattern, from 0.", d -> smallest());
+        s.of("and the text is the one with this number of the m smallest texts of the pattern, from 0.",
+                d -> smallest());
         s.of("At +, a number below 2 is drawn; 0 means the first S.", d -> plus());
         s.of("At *, a number below 3 is drawn before each repetition; 0 ends the loop.", d -> star());
         s.of("Each statement that is reached counts as one step;", d -> steps());
@@ -75,6 +76,19 @@ final class RunCases extends Cases {
             }
             d.t.runs(seed);
             due("seed " + seed + ", thirteen draws", d.ran(0), text.toString());
+        }
+        // Numbers below 5 tell also what the bits above would change.
+        String[] five = {"aa", "ab", "ac", "ba", "bb"};
+        for (int seed : SEEDS) {
+            Desk d = withProgram("u=00000000000000000000;", "a(a|b|c)|b(a|b)");
+            int[] below = new int[20];
+            java.util.Arrays.fill(below, 5);
+            StringBuilder text = new StringBuilder();
+            for (int k : drawn(seed, below)) {
+                text.append(five[k]);
+            }
+            d.t.runs(seed);
+            due("seed " + seed + ", twenty draws", d.ran(0), text.toString());
         }
     }
 
