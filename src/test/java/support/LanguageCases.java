@@ -162,6 +162,8 @@ final class LanguageCases extends Cases {
         isAll(d, 4);
         due("ten and NOTHING", d.pattern(0, "(aaaaaaaaaa)*"), 1);
         isAll(d, 4);
+        due("a part of a pattern can be larger", d.pattern(0, "(aaaaaaaaa)*"), 10);
+        due("the shortest but one", d.text(4, 1), "aaaaaaaaa");
     }
 
     private static void largeLetters() {
